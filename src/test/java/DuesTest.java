@@ -326,6 +326,23 @@ public final class DuesTest {
         x.go(30);
         check.went(x, 0, 10, 1, 20, 2, 21, 4, 22, 3, 23);
         waitsNoMore();
+        numberNoughtWaits();
+    }
+
+    private static void numberNoughtWaits() {
+        DueWheels x = new DueWheels();
+        x.once(1, 1);
+        x.once(20, 2);
+        x.go(1);
+        x.chained(1, 5, 90, 3);
+        x.chained(0, 5, 90, 4);
+        check.is(x.chain(0, 2), RING);
+        check.is(x.chain(0, 0), RING);
+        x.drop(1);
+        check.is(x.about(0, 2), 90);
+        x.undo();
+        x.go(20);
+        check.is(x.about(0, 2), 25);
     }
 
     private static void waitsNoMore() {

@@ -93,6 +93,10 @@ public final class TimeTest {
         check.is(x.about(5, 2), 50);
         x.go(30);
         check.went(x, 2, 24, 5, 24);
+        x.loose(32, 60, 0);
+        x.loose(33, 60, 1);
+        x.go(32);
+        check.went(x, 2, 32, 0, 32);
     }
 
     private static void rowIsFull() {
@@ -109,6 +113,10 @@ public final class TimeTest {
         check.is(x.went(49, 0), 1);
         check.is(x.went(299, 1), 599);
         check.is(x.count(5), 600);
+        x = new DueWheels();
+        x.often(1, 1, 300, 1);
+        check.is(x.go(1000), 1000);
+        check.is(x.count(4), 300);
     }
 
     private static void manyAtOneTick() {
@@ -196,6 +204,13 @@ public final class TimeTest {
         check.is(x.fewest(), 2);
         x.often(16, 1, 0, 1);
         check.is(x.fewest(), 2);
+        x.drop(5);
+        check.is(x.fewest(), 1);
+        for (int due = 0; due < 9; due++) {
+            x.drop(due);
+        }
+        x.loose(1, MOST, 1);
+        check.is(x.fewest(), 1);
     }
 
     private static void settle() {

@@ -255,6 +255,7 @@ public final class WheelsTest {
         check.is(x.once(5, 9), 1);
         check.is(x.about(1, 8), 1);
         check.is(x.undo(), 1);
+        check.is(x.about(1, 0), BAD);
         check.is(x.undo(), 0);
         check.is(x.undo(), NO);
         check.is(x.count(0), 0);
