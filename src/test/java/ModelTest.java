@@ -3,7 +3,7 @@ import java.util.List;
 
 /** Long runs of calls of all kinds, ordinary and wild, each answered as the model answers it. */
 public final class ModelTest {
-    private static final int RUNS = 4000, CALLS = 512;
+    private static final int RUNS = 2000, CALLS = 512;
     private static final long MOST = Check.MOST;
     private static final long[] WILD = {
         Long.MIN_VALUE, -MOST - 1, -MOST, -1, 0, 1, 63, 64, 4095, 4096, 1L << 30, (1L << 30) - 1,

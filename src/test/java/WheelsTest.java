@@ -273,12 +273,12 @@ public final class WheelsTest {
             x.resting(100, 5, 3, 6);
             x.rest(5);
             x.go(4);
-            String before = told(x);
+            String before = Told.withoutKept(x, 8);
             long answer = make(x, change);
             check.holds("change " + change + " is not refused", answer > BAD);
-            check.holds("change " + change + " changes something", !told(x).equals(before));
+            check.holds("change " + change + " changes something", !Told.withoutKept(x, 8).equals(before));
             check.is(x.undo(), 5);
-            check.holds("change " + change + " is taken back", told(x).equals(before.replace("kept 6", "kept 5")));
+            check.holds("change " + change + " is taken back", Told.withoutKept(x, 8).equals(before));
         }
     }
 
@@ -297,23 +297,6 @@ public final class WheelsTest {
             case 10: return x.settle();
             default: return x.go(50);
         }
-    }
-
-    private static String told(DueWheels x) {
-        StringBuilder all = new StringBuilder("now ").append(x.now());
-        for (int what = 0; what < 7; what++) {
-            all.append(' ').append(x.count(what));
-        }
-        for (int due = 0; due < 8; due++) {
-            for (int what = 0; what < 9; what++) {
-                all.append(' ').append(x.about(due, what));
-            }
-            all.append(' ').append(x.lies(due, 2));
-        }
-        for (int i = 0; i < x.count(4); i++) {
-            all.append(" went ").append(x.went(i, 0)).append(' ').append(x.went(i, 1));
-        }
-        return all.append(" kept ").append(x.count(7)).toString();
     }
 
     private static void keptAtMost() {
