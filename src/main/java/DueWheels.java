@@ -518,14 +518,12 @@ public final class DueWheels {
         int latest;
         int size;
 
-        Kept() {
-            for (int i = 0; i < KEPT_MOST; i++) {
-                ring[i] = new State();
-            }
-        }
-
         void keep(State state) {
             latest = (latest + 1) % KEPT_MOST;
+            // Made only as it is first needed, so that many objects with few changes stay small.
+            if (ring[latest] == null) {
+                ring[latest] = new State();
+            }
             ring[latest].copyOf(state);
             size = Math.min(size + 1, KEPT_MOST);
         }
@@ -533,6 +531,9 @@ public final class DueWheels {
         /** The state ahead of the latest change; the one given is taken into the ring for it. */
         State takeBack(State given) {
             State before = ring[latest];
+            if (before == null) {
+                return given;
+            }
             ring[latest] = given;
             latest = (latest + KEPT_MOST - 1) % KEPT_MOST;
             size--;
